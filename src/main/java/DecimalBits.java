@@ -18,11 +18,13 @@ public final class DecimalBits {
     private static final int PRESENT = 5;
 
     private static final int LAST = 8;
+    private static final int NO_LOG = -2147483648;
+    private static final long NO_WHOLE_NUMBER = -9223372036854775808L;
 
     private final Datum[] registers = new Datum[LAST + 1];
     private final Arithmetic arithmetic = new Arithmetic();
     private final Comparison comparison = new Comparison();
-    private final Pattern pattern = new Pattern();
+    private final BitPattern pattern = new BitPattern();
     private final TextReader reader = new TextReader();
     private final TextWriter writer = new TextWriter();
     private int direction = TO_EVEN;
@@ -117,7 +119,7 @@ public final class DecimalBits {
         Datum datum = registers[a];
         if (!datum.isFinite() || datum.isZero()) {
             signal(INVALID);
-            return Integer.MIN_VALUE;
+            return NO_LOG;
         }
         return datum.coefficient.digits() + datum.exponent - 1;
     }
@@ -239,7 +241,7 @@ public final class DecimalBits {
         }
     }
 
-    /** A natural number below ten to the 144, nine digits a limb, the lowest first: what moves it most are powers of ten. */
+    /** A natural number below ten to the 144: limbs of nine digits, the lowest first, as powers of ten move it most. */
     private static final class Natural {
         static final int LIMBS = 16;
         static final int LIMB_DIGITS = 9;
@@ -405,9 +407,9 @@ public final class DecimalBits {
             if (places <= 0) {
                 return;
             }
-            int whole = places / LIMB_DIGITS;
-            for (int i = LIMBS - 1; i >= 0 && whole > 0; i--) {
-                limbs[i] = i >= whole ? limbs[i - whole] : 0;
+            int far = places / LIMB_DIGITS;
+            for (int i = LIMBS - 1; i >= 0 && far > 0; i--) {
+                limbs[i] = i >= far ? limbs[i - far] : 0;
             }
             timesPlus(POWERS[places % LIMB_DIGITS], 0);
         }
@@ -416,9 +418,9 @@ public final class DecimalBits {
             if (places <= 0) {
                 return;
             }
-            int whole = places / LIMB_DIGITS;
-            for (int i = 0; i < LIMBS && whole > 0; i++) {
-                limbs[i] = i + whole < LIMBS ? limbs[i + whole] : 0;
+            int far = places / LIMB_DIGITS;
+            for (int i = 0; i < LIMBS && far > 0; i++) {
+                limbs[i] = i + far < LIMBS ? limbs[i + far] : 0;
             }
             divideBy(POWERS[places % LIMB_DIGITS]);
         }
@@ -589,7 +591,7 @@ public final class DecimalBits {
     }
 
     /** A datum's words, and the way there and back. All but a coefficient's lower bits is in the highest word. */
-    private static final class Pattern {
+    private static final class BitPattern {
         private static final int INFINITE_HEAD = 0x78000000;
         private static final int QUIET_HEAD = 0x7c000000;
         private static final int SIGNALLING_HEAD = 0x7e000000;
@@ -672,7 +674,7 @@ public final class DecimalBits {
     }
 
     /** An exact value ahead of rounding: with more, it is above its coefficient, but not by one. */
-    private static final class Exact {
+    private static final class Unrounded {
         boolean negative = false;
         final Natural coefficient = new Natural();
         long exponent = 0;
@@ -688,7 +690,7 @@ public final class DecimalBits {
             more = false;
         }
 
-        void copy(Exact other) {
+        void copy(Unrounded other) {
             negative = other.negative;
             coefficient.copy(other.coefficient);
             exponent = other.exponent;
@@ -720,7 +722,7 @@ public final class DecimalBits {
         private static final int FAR = 200;
 
         /** Rounds to the result's format: what is signalled. */
-        static int round(Exact x, int direction, Datum result) {
+        static int round(Unrounded x, int direction, Datum result) {
             int f = result.form;
             long least = Formats.leastExponent(f);
             long greatest = Formats.greatestExponent(f);
@@ -749,7 +751,7 @@ public final class DecimalBits {
             return Math.max(lowest, Math.min(wish, highest));
         }
 
-        private static int roundInexact(Exact x, int direction, Datum result) {
+        private static int roundInexact(Unrounded x, int direction, Datum result) {
             int f = result.form;
             int digits = x.coefficient.digits();
             long greatest = Formats.greatestExponent(f);
@@ -770,7 +772,7 @@ public final class DecimalBits {
             return tiny ? INEXACT | UNDERFLOW : INEXACT;
         }
 
-        private static int overflow(Exact x, int direction, Datum result) {
+        private static int overflow(Unrounded x, int direction, Datum result) {
             boolean outward = x.negative ? direction == DOWN : direction == UP;
             if (outward || direction == TO_EVEN || direction == TIES_AWAY) {
                 result.setSpecial(Datum.INFINITE);
@@ -898,8 +900,8 @@ public final class DecimalBits {
 
         final Datum result = new Datum();
         long wholeNumber = 0;
-        private final Exact x = new Exact();
-        private final Exact y = new Exact();
+        private final Unrounded x = new Unrounded();
+        private final Unrounded y = new Unrounded();
         private final Divider divider = new Divider();
         private final Comparison comparison = new Comparison();
         private final Natural work = new Natural();
@@ -1055,7 +1057,7 @@ public final class DecimalBits {
 
         /** The number is left in wholeNumber. */
         int toWhole(Datum a, int direction, boolean exactly) {
-            wholeNumber = Long.MIN_VALUE;
+            wholeNumber = NO_WHOLE_NUMBER;
             if (!a.isFinite() || !a.isZero() && a.coefficient.digits() + a.exponent > LONG_DIGITS) {
                 return INVALID;
             }
@@ -1064,7 +1066,8 @@ public final class DecimalBits {
             work.shiftUp(a.exponent);
             int low = work.giveWord();
             long size = (long) work.giveWord() << 32 | low & 0xffffffffL;
-            if (size < 0 && !(a.negative && size == Long.MIN_VALUE)) {
+            // From two to the 63 on it is below 0 here; that one alone, with a -, is still a number of 64 bits.
+            if (size < 0 && !(a.negative && size == NO_WHOLE_NUMBER)) {
                 return INVALID;
             }
             wholeNumber = a.negative ? -size : size;
@@ -1105,12 +1108,12 @@ public final class DecimalBits {
         }
 
         private int pick(int what, Datum a, Datum b) {
-            int order = what == MIN_SIZE || what == MAX_SIZE ? comparison.sizes(a, b) : 0;
+            int order = what >= MIN_SIZE ? comparison.sizes(a, b) : 0;
             if (order == 0) {
                 order = comparison.values(a, b);
             }
-            boolean lesser = what == MIN || what == MIN_SIZE;
-            if (lesser ? order > 0 : order < 0) {
+            boolean greater = what == MAX || what == MAX_SIZE;
+            if (greater ? order < 0 : order > 0) {
                 result.copy(b);
             }
             return 0;
@@ -1151,7 +1154,7 @@ public final class DecimalBits {
         }
 
         /** Gives both one exponent. A lower one that is too small for any digit kept counts as a trace: one unit. */
-        private void align(Exact upper, Exact lower) {
+        private void align(Unrounded upper, Unrounded lower) {
             int digits = Formats.DIGITS[result.form];
             int spare = Math.max(0, digits + 2 - upper.coefficient.digits());
             if (lower.exponent + lower.coefficient.digits() <= upper.exponent - spare) {
@@ -1447,8 +1450,8 @@ public final class DecimalBits {
             return (c >= 'a' && c <= 'z' ? (char) (c - 'a' + 'A') : c) == great;
         }
 
-        private boolean isAtDigit() {
-            return place < length && text[place] >= '0' && text[place] <= '9';
+        private static boolean isDigit(char c) {
+            return c >= '0' && c <= '9';
         }
 
         private boolean passSign() {
@@ -1473,7 +1476,7 @@ public final class DecimalBits {
 
         private int passDigits() {
             int start = place;
-            while (isAtDigit()) {
+            while (place < length && isDigit(text[place])) {
                 digits.timesPlus(10, text[place] - '0');
                 place++;
             }
@@ -1504,7 +1507,7 @@ public final class DecimalBits {
             boolean minus = passSign();
             int start = place;
             int size = 0;
-            while (isAtDigit()) {
+            while (place < length && isDigit(text[place])) {
                 size = Math.min(size * 10 + text[place] - '0', GREATEST_EXPONENT);
                 place++;
             }

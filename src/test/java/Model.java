@@ -180,8 +180,11 @@ final class Model {
         }
         signals |= OVERFLOW;
         boolean infinite = way == 0 || way == 4 || way == 2 && !minus || way == 3 && minus;
-        BigInteger nines = BigInteger.TEN.pow(P[f]).subtract(BigInteger.ONE);
-        return infinite ? Datum.infinity(f, minus) : Datum.finite(f, minus, nines, greatest(f));
+        return infinite ? Datum.infinity(f, minus) : greatestNumber(f, minus);
+    }
+
+    private static Datum greatestNumber(int f, boolean minus) {
+        return Datum.finite(f, minus, BigInteger.TEN.pow(P[f]).subtract(BigInteger.ONE), greatest(f));
     }
 
     private static long topPower(Size x) {
@@ -581,7 +584,7 @@ final class Model {
     /** By rounding up a value that lies above a's by less than any step. */
     private Datum nextUp(Datum a) {
         if (a.isInfinite()) {
-            return a.minus ? Datum.finite(a.f, true, BigInteger.TEN.pow(P[a.f]).subtract(BigInteger.ONE), greatest(a.f)) : a;
+            return a.minus ? greatestNumber(a.f, true) : a;
         }
         BigDecimal above = a.value().add(ten(least(a.f) - P[a.f] - 2));
         BigDecimal size = above.abs();
