@@ -492,9 +492,7 @@ public final class DecimalBits {
                 carry = value / Natural.BASE + (left < 0 ? 1 : 0);
                 rest[at + i] = left < 0 ? left + Natural.BASE : left;
             }
-            boolean enough = rest[at + length] >= carry;
-            rest[at + length] = 0;
-            return enough;
+            return rest[at + length] >= carry;
         }
 
         /** The limb of the quotient, or one more, from the two highest limbs of the divisor. */

@@ -188,7 +188,7 @@ public final class ModelTest {
     private BigInteger someCoefficient(int most) {
         BigInteger ten = BigInteger.TEN;
         int n = random.nextInt(most + 1);
-        switch (random.nextInt(8)) {
+        switch (random.nextInt(9)) {
             case 0:
                 return BigInteger.valueOf(random.nextInt(12));
             case 1:
@@ -201,9 +201,22 @@ public final class ModelTest {
                 return someDigits(most - n).multiply(ten.pow(n));
             case 5:
                 return ten.pow(n).subtract(BigInteger.ONE);
+            case 6:
+                return someGroups().mod(ten.pow(most));
             default:
                 return someDigits(n);
         }
+    }
+
+    /** Groups of nine digits at their edges: the ones that a division by limbs finds hard. */
+    private BigInteger someGroups() {
+        StringBuilder s = new StringBuilder();
+        String[] edges = {"000000000", "999999999", "500000000", "499999999", "000000001", "999999998", "100000000"};
+        for (int k = 0; k < 4; k++) {
+            int pick = random.nextInt(edges.length + 1);
+            s.append(pick < edges.length ? edges[pick] : String.format("%09d", random.nextInt(1000000000)));
+        }
+        return new BigInteger(s.toString());
     }
 
     private BigInteger someDigits(int count) {
