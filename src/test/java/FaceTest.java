@@ -41,7 +41,8 @@ public final class FaceTest {
 
     public static void main(String[] args) {
         Class<?> face = DecimalBits.class;
-        hold("the class is public and final", Modifier.isPublic(face.getModifiers()) && Modifier.isFinal(face.getModifiers()));
+        int open = face.getModifiers();
+        hold("the class is public and final", Modifier.isPublic(open) && Modifier.isFinal(open));
         hold("the methods are " + methods(face), methods(face).equals(new TreeSet<>(Arrays.asList(FACE))));
         for (Field field : face.getDeclaredFields()) {
             boolean isNone = field.getName().equals("NONE") && field.getModifiers()
