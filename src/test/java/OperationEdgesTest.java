@@ -23,6 +23,7 @@ public final class OperationEdgesTest extends Checks {
             fusedInfinities(f);
             rootsOfOthers(f);
             wholes(f);
+            wholesAtEveryPlace(f);
             wholesThatStay(f);
             nextUp(f);
             nextDown(f);
@@ -209,7 +210,12 @@ public final class OperationEdgesTest extends Checks {
             {"5E" + GREATEST[f], "1E" + GREATEST[f], "0E" + GREATEST[f]},
             {"1E" + GREATEST[f], "3E" + -BIAS[f], least(f)},
             {"2E" + GREATEST[f], "3E" + -BIAS[f], "-" + least(f)},
-            {nines(P[f]) + "E0", ten(P[f] - 1) + "E1", "-1E0"},
+            {nines(P[f]) + "E0", ten(P[f] - 1) + "E1", "-1E0"}, {nines(P[f]) + "E0", "1E" + P[f], "-1E0"},
+            {nines(P[f]) + "E0", "2E" + P[f], nines(P[f]) + "E0"},
+            {nines(P[f]) + "E0", "1E" + (P[f] + 1), nines(P[f]) + "E0"},
+            {"5" + "0".repeat(P[f] - 1) + "E0", "1E" + P[f], "5" + "0".repeat(P[f] - 1) + "E0"},
+            {"5" + "0".repeat(P[f] - 2) + "1E0", "1E" + P[f], "-4" + nines(P[f] - 1) + "E0"},
+            {"4" + nines(P[f] - 1) + "E0", "1E" + P[f], "4" + nines(P[f] - 1) + "E0"},
             {"5E" + P[f], ten(P[f] - 1) + "E2", "5" + "0".repeat(P[f] - 2) + "E2"},
         };
         for (String[] row : rows) {
@@ -465,6 +471,21 @@ public final class OperationEdgesTest extends Checks {
         whole(f, nines(P[f]) + "E-1", power, below, power, below, power);
         whole(f, nines(P[f] - 1) + "5E-1", power, below, power, below, power);
         whole(f, nines(P[f] - 1) + "4E-1", below, below, power, below, below);
+    }
+
+    /** However small it is: 6 and so many places behind the point. */
+    private static void wholesAtEveryPlace(int f) {
+        for (int q = -1; q >= -BIAS[f]; q -= q < -420 ? 97 : 1) {
+            String nearest = q == -1 ? "1E0" : "0E0";
+            one(1, f, 1, "6E" + q, nearest + " 0");
+            one(3, f, 1, "6E" + q, "1E0 0");
+            one(6, f, 0, "-6E" + q, "-" + nearest + " 16");
+            one(6, f, 3, "-0E" + q, "-0E0 0");
+            two(5, f, 3, "0E" + q, "1E0", "0E0 0");
+            two(5, f, 4, "6E" + q, "1E0", nearest + " 16");
+            two(5, f, 2, "6E" + q, "1E0", "1E0 16");
+            two(5, f, 1, nines(P[f]) + "E" + q, "0E" + GREATEST[f], "0E" + GREATEST[f] + " 16");
+        }
     }
 
     private static void wholesThatStay(int f) {

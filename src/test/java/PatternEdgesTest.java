@@ -16,6 +16,7 @@ public final class PatternEdgesTest extends Checks {
             kinds(f);
             likeness(f);
         }
+        oneDatumBehindAnother();
         wordsThatAreNotLookedAt();
         wordsThatAreNotThere();
         registersThatAreNotThere();
@@ -270,6 +271,27 @@ public final class PatternEdgesTest extends Checks {
         due("alike with LAST", x.alike(3, 8), true);
         due("alike of LAST and a zero", x.alike(8, 7), false);
         due("alike of LAST and itself", x.alike(8, 8), true);
+    }
+
+    /** A register's datum tells nothing of the one that was there before. */
+    private static void oneDatumBehindAnother() {
+        String[] data = {"12E-3", "-0E5", "Infinity", "-Infinity", "NaN", "-NaN7", "sNaN", "sNaN8", "-99E9"};
+        for (int k = 0; k < 9 * data.length * data.length; k++) {
+            String first = data[k / 9 % data.length];
+            String second = data[k / 9 / data.length];
+            String negated = first.startsWith("-") ? first.substring(1) : "-" + first;
+            int f = k % 3;
+            int g = k / 3 % 3;
+            DecimalBits x = new DecimalBits();
+            set(x, 0, f, first);
+            x.one(9, 1, 0);
+            set(x, 0, g, second);
+            due("load of " + second + " behind " + first, datum(x, 0) + " " + x.format(0), second + " " + g);
+            due("LAST behind it", datum(x, 8) + " " + x.format(8), negated + " " + f);
+            x.one(9, 1, 0);
+            x.one(9, 1, 1);
+            due("a result behind another", datum(x, 1) + " " + x.format(1), second + " " + g);
+        }
     }
 
     private static void wordsThatAreNotLookedAt() {

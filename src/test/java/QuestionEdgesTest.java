@@ -15,6 +15,7 @@ public final class QuestionEdgesTest extends Checks {
             comparisons(f);
             comparisonsOfNaNs(f);
             orderOfAll(f);
+            sameHoweverMade(f);
         }
         greatestWholeNumbers();
         leastWholeNumbers();
@@ -272,6 +273,32 @@ public final class QuestionEdgesTest extends Checks {
         DecimalBits x = desk(f, upward[0]);
         x.ordered(0, 7);
         leaves("ordered", x, 0, upward[0]);
+    }
+
+    /** INFINITIES and NaNs that came about in different ways are the same. */
+    private static void sameHoweverMade(int f) {
+        DecimalBits x = desk(f, "Infinity", greatest(f), "5E0", "0E0", "0E3");
+        x.two(2, 5, 1, 1);
+        x.two(3, 6, 2, 3);
+        x.scale(7, 1, 1);
+        int[] infinities = {0, 5, 6, 7, 8};
+        for (int a : infinities) {
+            for (int b : infinities) {
+                due("infinities in order", x.ordered(a, b), true);
+                due("infinities compared", x.compare(a, b, false), 0);
+                due("infinities alike", x.alike(a, b), true);
+            }
+        }
+        set(x, 0, f, "NaN");
+        x.two(3, 5, 3, 4);
+        x.two(3, 6, 4, 3);
+        put(x, 7, f, "NaN");
+        for (int a : infinities) {
+            for (int b : infinities) {
+                due("NaNs in order", x.ordered(a, b), true);
+                due("NaNs alike", x.alike(a, b), true);
+            }
+        }
     }
 
     /** The order of those with - is the other way round. */

@@ -1,11 +1,19 @@
+import java.math.BigInteger;
+import java.util.ArrayList;
+import java.util.List;
+
 /** The document's ROUNDING at its edges, in all formats, directions and signs, by texts and by the operations. */
 public final class RoundingEdgesTest extends Checks {
     public static void main(String[] args) {
         for (int f = 0; f < 3; f++) {
             ties(f);
+            tracesAtEveryPlace(f);
             tiesOfSums(f);
+            sumsFarApart(f);
             tiesOfProductsAndQuotients(f);
             tracesOfProductsAndQuotients(f);
+            exactProducts(f);
+            hardQuotients(f);
             lastDigitsThatCarry(f);
             belowAPowerOfTen(f);
             exactWithTheWish(f);
@@ -22,6 +30,7 @@ public final class RoundingEdgesTest extends Checks {
             roundedOnce(f);
             fusedOnce(f);
             roots(f);
+            hardRoots(f);
         }
         for (int f = 0; f < 3; f++) {
             for (int g = 0; g < f; g++) {
@@ -96,6 +105,16 @@ public final class RoundingEdgesTest extends Checks {
         readInAll(f, stem(f, 3) + "." + nines(60), ending(f, 4, 3, 4, 3, 4));
     }
 
+    /** What lies below the last digit kept counts, however far below. */
+    private static void tracesAtEveryPlace(int f) {
+        for (int n = 0; n < 80; n++) {
+            readInAll(f, stem(f, 2) + "." + "0".repeat(n) + "1", ending(f, 2, 2, 3, 2, 2));
+            readInAll(f, stem(f, 2) + ".5" + "0".repeat(n) + "1", ending(f, 3, 2, 3, 2, 3));
+            readInAll(f, stem(f, 3) + ".4" + nines(n), ending(f, 3, 3, 4, 3, 3));
+            readInAll(f, stem(f, 2) + ".5" + "0".repeat(n), ending(f, 2, 2, 3, 2, 3));
+        }
+    }
+
     private static void tiesOfSums(int f) {
         String even = stem(f, 2) + "E0";
         String odd = stem(f, 3) + "E0";
@@ -113,6 +132,23 @@ public final class RoundingEdgesTest extends Checks {
         addInAll(f, stem(f, 4) + "E0", "-5E-1", ending(f, 4, 3, 4, 3, 4));
         addInAll(f, stem(f, 4) + "E0", "-" + belowHalf, ending(f, 4, 3, 4, 3, 4));
         addInAll(f, odd, "-" + aboveHalf, ending(f, 2, 2, 3, 2, 2));
+    }
+
+    /** A number of P digits and one of P digits below it, nearer and farther. */
+    private static void sumsFarApart(int f) {
+        String[] less = ending(f, 2, 2, 3, 2, 2);
+        String[] more = ending(f, 3, 2, 3, 2, 3);
+        for (int gap = 1; gap <= P[f] + 8; gap++) {
+            String end = "E" + (-P[f] - gap);
+            addInAll(f, stem(f, 2) + "E0", nines(P[f]) + end, less);
+            addInAll(f, nines(P[f]) + end, stem(f, 2) + "E0", less);
+            addInAll(f, stem(f, 3) + "E0", "-" + nines(P[f]) + end, more);
+            addInAll(f, stem(f, 2) + "E0", "1" + end, less);
+        }
+        addInAll(f, stem(f, 2) + "E0", nines(P[f]) + "E" + -P[f], more);
+        addInAll(f, stem(f, 2) + "E0", nines(P[f]) + "E" + -BIAS[f], less);
+        addInAll(f, stem(f, 3) + "E0", "-" + nines(P[f]) + "E" + -BIAS[f], more);
+        addInAll(f, stem(f, 2) + "E0", "5" + "0".repeat(P[f] - 1) + "E" + -P[f], ending(f, 2, 2, 3, 2, 3));
     }
 
     private static void tiesOfProductsAndQuotients(int f) {
@@ -141,6 +177,53 @@ public final class RoundingEdgesTest extends Checks {
             all("16", third + "3" + at, third + "3" + at, third + "4" + at, third + "3" + at, third + "3" + at));
         signedInAll(3, f, "2E0", "3E0", all("16", twoThirds + "7" + at, twoThirds + "6" + at, twoThirds + "7" + at,
             twoThirds + "6" + at, twoThirds + "7" + at));
+    }
+
+    /** Nines by nines have carries everywhere; what they make is divided again. */
+    private static void exactProducts(int f) {
+        for (int i = 1; i < P[f]; i++) {
+            for (int k = 1; i + k <= P[f]; k++) {
+                String a = nines(i) + "E0";
+                String b = nines(k) + "E-3";
+                BigInteger product = new BigInteger(nines(i)).multiply(new BigInteger(nines(k)));
+                two(2, f, 0, a, b, product + "E-3 0");
+                two(3, f, 0, product + "E-3", a, b + " 0");
+                two(4, f, 0, product + "E-3", b, "0E-3 0");
+                fused(f, 0, a, b, "1E-3", product.add(BigInteger.ONE) + "E-3 0");
+            }
+        }
+    }
+
+    /** Quotients that lie above or below a number, or half-way between two, by as little as can be. */
+    private static void hardQuotients(int f) {
+        BigInteger shift = BigInteger.TEN.pow(P[f]);
+        int found = 0;
+        for (long below = 1; below < 400; below += 2) {
+            BigInteger b = shift.subtract(BigInteger.valueOf(below));
+            if (!b.gcd(BigInteger.TEN).equals(BigInteger.ONE)) {
+                continue;
+            }
+            BigInteger half = b.shiftRight(1);
+            BigInteger[] rests = {BigInteger.ONE, half, half.add(BigInteger.ONE), b.subtract(BigInteger.ONE)};
+            for (int k = 0; k < rests.length; k++) {
+                BigInteger a = shift.modInverse(b).multiply(rests[k]).mod(b);
+                BigInteger c = a.multiply(shift).divide(b);
+                if (c.toString().length() == P[f]) {
+                    hardQuotient(f, a + "E0", b + "E0", c, k >= 2);
+                    found++;
+                }
+            }
+        }
+        due("hard quotients were found", found > 100, true);
+    }
+
+    private static void hardQuotient(int f, String a, String b, BigInteger c, boolean nearerToTheUpper) {
+        String down = c + "E" + -P[f];
+        BigInteger upper = c.add(BigInteger.ONE);
+        boolean carries = upper.toString().length() > P[f];
+        String up = carries ? upper.divide(BigInteger.TEN) + "E" + (1 - P[f]) : upper + "E" + -P[f];
+        String near = nearerToTheUpper ? up : down;
+        signedInAll(3, f, a, b, all("16", near, down, up, down, near));
     }
 
     /** The least q for which c, as it is rounded, has at most P digits. */
@@ -444,6 +527,46 @@ public final class RoundingEdgesTest extends Checks {
         }
         String square = nines(P[f] / 2);
         root(f, square.substring(1) + "8" + "0".repeat(P[f] / 2 - 1) + "1E0", all("0", square + "E0"));
+    }
+
+    /** All numbers below ten to the count whose square, less n, has so many zeros at its end, found digit by digit. */
+    private static List<BigInteger> rootsOf(BigInteger n, int count) {
+        List<BigInteger> found = List.of(BigInteger.ZERO);
+        for (int place = 0; place < count; place++) {
+            BigInteger unit = BigInteger.TEN.pow(place);
+            BigInteger modulus = unit.multiply(BigInteger.TEN);
+            List<BigInteger> longer = new ArrayList<>();
+            for (BigInteger c : found) {
+                for (int d = 0; d <= 9; d++) {
+                    BigInteger next = c.add(unit.multiply(BigInteger.valueOf(d)));
+                    if (next.multiply(next).subtract(n).mod(modulus).signum() == 0) {
+                        longer.add(next);
+                    }
+                }
+            }
+            found = longer;
+        }
+        return found;
+    }
+
+    /** Roots that lie above or below a number by as little as can be: c times c, and 31 more, or 1 less. */
+    private static void hardRoots(int f) {
+        int tried = 0;
+        for (int more : new int[] {31, 39, -1, -9}) {
+            for (BigInteger c : rootsOf(BigInteger.valueOf(-more), P[f])) {
+                BigInteger square = c.multiply(c).add(BigInteger.valueOf(more));
+                BigInteger a = square.divide(BigInteger.TEN.pow(P[f]));
+                if (c.toString().length() == P[f] && a.signum() > 0) {
+                    String same = c + "E0";
+                    String up = c.add(BigInteger.ONE) + "E0";
+                    String down = c.subtract(BigInteger.ONE) + "E0";
+                    root(f, a + "E" + P[f], more > 0 ? all("16", same, same, up, same, same)
+                        : all("16", same, down, same, down, same));
+                    tried++;
+                }
+            }
+        }
+        due("hard roots were found", tried > 5, true);
     }
 
     /** CONVERT to format f: rounded there, wish its q. */

@@ -21,6 +21,8 @@ public final class StateEdgesTest extends Checks {
             trapsOfThreeAndOne(f);
             trapsOfOthers(f);
             trapsOfQuestions(f);
+            signalsOfTheirOwn(f);
+            nothingLeftBehind(f);
         }
         trapsThatMeanNothing();
         flagsThatStay();
@@ -351,6 +353,98 @@ public final class StateEdgesTest extends Checks {
         x.direct(1);
         x.trap(0);
         due("flags", x.flags(), 31);
+    }
+
+    private static List<Step> signalling(int f) {
+        List<Step> steps = new ArrayList<>();
+        steps.add(x -> x.two(3, 7, 0, 2));
+        steps.add(x -> x.two(3, 7, 2, 2));
+        steps.add(x -> x.two(2, 7, 4, 4));
+        steps.add(x -> x.fused(7, 5, 5, 2));
+        steps.add(x -> x.one(6, 7, 6));
+        steps.add(x -> x.scale(7, 4, 1));
+        steps.add(x -> x.convert(7, 3, f));
+        steps.add(x -> x.number(7, 0, 1, 1));
+        steps.add(x -> put(x, 7, f, "1E9999"));
+        steps.add(x -> x.whole(6, 0, true));
+        steps.add(x -> x.log(2));
+        steps.add(x -> x.compare(3, 3, true));
+        return steps;
+    }
+
+    private static List<Step> silent(int f) {
+        List<Step> steps = new ArrayList<>();
+        steps.add(x -> x.two(0, 7, 0, 1));
+        steps.add(x -> x.two(5, 7, 1, 0));
+        steps.add(x -> x.two(7, 7, 1, 0));
+        steps.add(x -> x.two(10, 7, 3, 3));
+        steps.add(x -> x.fused(7, 0, 1, 1));
+        steps.add(x -> x.one(0, 7, 0));
+        steps.add(x -> x.one(6, 7, 0));
+        steps.add(x -> x.one(7, 7, 4));
+        steps.add(x -> x.one(11, 7, 0));
+        steps.add(x -> x.scale(7, 0, 1));
+        steps.add(x -> x.convert(7, 0, f));
+        steps.add(x -> x.number(7, f, 0, 1));
+        steps.add(x -> put(x, 7, f, "1"));
+        steps.add(x -> x.whole(2, 0, true));
+        steps.add(x -> x.log(0));
+        steps.add(x -> x.compare(2, 2, false));
+        steps.add(x -> {
+            set(x, 7, f, "NaN");
+            return x.compare(7, 0, true) - 2;
+        });
+        return steps;
+    }
+
+    /** A call answers what it signalled itself, and is stopped by that alone, whatever came before it. */
+    private static void signalsOfTheirOwn(int f) {
+        for (Step first : signalling(f)) {
+            for (Step second : silent(f)) {
+                DecimalBits x = desk(f);
+                first.on(x);
+                int before = x.flags();
+                due("a signalling call", before != 0, true);
+                x.trap(31);
+                due("a call behind a signalling one", outcome(() -> second.on(x)), "answers 0");
+                due("flags behind both", x.flags(), before);
+                x.lower(31);
+                due("the same call again", outcome(() -> second.on(x)), "answers 0");
+                due("flags behind it", x.flags(), 0);
+                due("a trapped one", outcome(() -> first.on(x)), "ArithmeticException");
+                due("flags behind it", x.flags(), before);
+                x.lower(31);
+                due("a call behind a trapped one", outcome(() -> second.on(x)), "answers 0");
+                due("flags behind it", x.flags(), 0);
+            }
+        }
+    }
+
+    /** What a call answers and leaves in d doesn't depend on another call before it, which has another d. */
+    private static void nothingLeftBehind(int f) {
+        List<Step> steps = new ArrayList<>(silent(f));
+        steps.addAll(signalling(f));
+        steps.add(x -> x.two(4, 7, 4, 1));
+        steps.add(x -> x.two(3, 7, 0, 1));
+        steps.add(x -> x.two(1, 7, 0, 5));
+        steps.add(x -> x.one(0, 7, 1));
+        steps.add(x -> x.scale(7, 2, 77));
+        steps.add(x -> x.number(7, f, -1, -5));
+        steps.add(x -> x.number(7, f, 0, 0));
+        steps.add(x -> put(x, 7, f, "-12.5E-7"));
+        steps.add(x -> put(x, 7, f, "-sNaN77"));
+        for (Step second : steps) {
+            DecimalBits alone = desk(f);
+            String answer = outcome(() -> second.on(alone));
+            String result = datum(alone, 7) + " " + alone.format(7);
+            for (Step first : steps) {
+                DecimalBits x = desk(f);
+                first.on(x);
+                set(x, 7, (f + 1) % 3, "55E5");
+                due("a call behind another", outcome(() -> second.on(x)), answer);
+                due("its result", datum(x, 7) + " " + x.format(7), result);
+            }
+        }
     }
 
     /** The flags in a sum of them are set no more: those that were. */

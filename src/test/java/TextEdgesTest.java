@@ -10,6 +10,8 @@ public final class TextEdgesTest extends Checks {
             leastTexts(f);
             greatestTexts(f);
             pointsAndExponents(f);
+            everyDigitInEveryPlace(f);
+            oneTextBehindAnother(f);
             exponentsBeyond(f);
             lettersGreatOrSmall(f);
             payloads(f);
@@ -192,6 +194,47 @@ public final class TextEdgesTest extends Checks {
         }
         read(f, 0, "0." + "0".repeat(100) + "1E101", "1E0 0");
         read(f, 0, "1" + "0".repeat(100) + "E-100", ten(P[f] - 1) + "E" + (1 - P[f]) + " 0");
+    }
+
+    private static void everyDigitInEveryPlace(int f) {
+        for (int d = 0; d <= 9; d++) {
+            String last = d + " 0";
+            read(f, 0, "" + d, d + "E0 0");
+            read(f, 0, d + ".", d + "E0 0");
+            read(f, 0, "." + d, d + "E-1 0");
+            read(f, 0, "1" + d + "1", "1" + d + "1E0 0");
+            read(f, 0, "1" + d + ".1", "1" + d + "1E-1 0");
+            read(f, 0, "1." + d + "1", "1" + d + "1E-2 0");
+            read(f, 0, "." + d + "1", d + "1E-2 0");
+            read(f, 0, "1E" + d, "1E" + last);
+            read(f, 0, "1E1" + d, "1E1" + last);
+            read(f, 0, "1E+" + d + "0", "1E" + 10 * d + " 0");
+            read(f, 0, "10E-1" + d, "10E-1" + last);
+            read(f, 0, "NAN1" + d, "NaN1" + last);
+            read(f, 0, "NAN" + d + "1", "NaN" + (10 * d + 1) + " 0");
+            read(f, 0, "SNAN1" + d, "sNaN1" + last);
+        }
+    }
+
+    /** A text tells nothing of the one before it. */
+    private static void oneTextBehindAnother(int f) {
+        String[][] rows = {
+            {"7", "7E0"}, {"-7.25E-3", "-725E-5"}, {"0", "0E0"}, {"1E9999", "Infinity"}, {"-1E-9999", "-0E" + -BIAS[f]},
+            {"-INF", "-Infinity"}, {"INFINITY", "Infinity"}, {"NAN", "NaN"}, {"-NAN12", "-NaN12"}, {"SNAN", "sNaN"},
+            {"sNaN34", "sNaN34"}, {"0E5", "0E5"}, {"NAN" + nines(100), "NaN"}
+        };
+        for (String[] first : rows) {
+            for (String[] second : rows) {
+                DecimalBits x = new DecimalBits();
+                put(x, 0, f, first[0]);
+                put(x, 0, f, second[0]);
+                due("read of " + second[0] + " behind " + first[0], datum(x, 0), second[1]);
+                type(x, first[0] + "X");
+                refused("read of a text with X", () -> x.read(0, f));
+                put(x, 1, f, second[0]);
+                due("read of " + second[0] + " behind " + first[0] + "X", datum(x, 1), second[1]);
+            }
+        }
     }
 
     /** One beyond 99999999 in size counts as that; it is never another one by wrap-around. */
