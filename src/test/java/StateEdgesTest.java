@@ -16,6 +16,7 @@ public final class StateEdgesTest extends Checks {
         refusedOne();
         refusedOthers();
         refusedQuestions();
+        refusedReads();
         for (int f = 0; f < 3; f++) {
             trapsOfTwo(f);
             trapsOfThreeAndOne(f);
@@ -182,6 +183,32 @@ public final class StateEdgesTest extends Checks {
         for (int[] m : mixed) {
             nothingDone("compare(" + m[0] + ", " + m[1] + ", false)", x -> x.compare(m[0], m[1], false));
             nothingDone("ordered(" + m[0] + ", " + m[1] + ")", x -> x.ordered(m[0], m[1]) ? 1 : 0);
+        }
+    }
+
+    /** The text is empty then, and nothing else is done. */
+    private static void textAlone(String what, String more, int d, int f) {
+        DecimalBits x = busy();
+        type(x, more);
+        String before = snapshot(x);
+        refused(what, () -> x.read(d, f));
+        due("all behind " + what, snapshot(x), before);
+        trapped("the traps behind " + what, () -> x.two(3, 7, 0, 1));
+        refused("the text behind " + what, () -> x.read(7, 1));
+    }
+
+    private static void refusedReads() {
+        for (int d : NO_TARGETS) {
+            textAlone("read(" + d + ", 1)", "", d, 1);
+            textAlone("read(" + d + ", 1) of a great one", "E9999", d, 1);
+        }
+        for (int f : NO_FORMATS) {
+            textAlone("read(6, " + f + ")", "", 6, f);
+            textAlone("read(6, " + f + ") of a small one", "E-9999", 6, f);
+        }
+        for (String more : new String[] {"X", "E", "E+", ".1.", "NAN", " "}) {
+            textAlone("read(6, 1) of 12" + more, more, 6, 1);
+            textAlone("read(9, 9) of 12" + more, more, 9, 9);
         }
     }
 
