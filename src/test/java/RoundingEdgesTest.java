@@ -10,6 +10,7 @@ public final class RoundingEdgesTest extends Checks {
             tracesAtEveryPlace(f);
             tiesOfSums(f);
             sumsFarApart(f);
+            halvesBesideShortOnes(f);
             tiesOfProductsAndQuotients(f);
             tracesOfProductsAndQuotients(f);
             exactProducts(f);
@@ -151,6 +152,28 @@ public final class RoundingEdgesTest extends Checks {
         addInAll(f, stem(f, 2) + "E0", "5" + "0".repeat(P[f] - 1) + "E" + -P[f], ending(f, 2, 2, 3, 2, 3));
     }
 
+    /** Fewer digits than P above, and half of the last place below, with few digits and with P of them. */
+    private static void halvesBesideShortOnes(int f) {
+        String upper = "25E" + (P[f] - 2);
+        String exactly = "25" + "0".repeat(P[f] - 2) + "E0";
+        String above = "25" + "0".repeat(P[f] - 3) + "1E0";
+        String below = "24" + nines(P[f] - 2) + "E0";
+        String[] more = all("16", exactly, exactly, above, exactly, above);
+        String[] less = all("16", exactly, below, exactly, below, exactly);
+        for (String half : new String[] {"5E-1", "5" + "0".repeat(P[f] - 1) + "E" + -P[f]}) {
+            addInAll(f, upper, half, more);
+            addInAll(f, half, upper, more);
+            addInAll(f, upper, "-" + half, less);
+            addInAll(f, "-" + half, upper, less);
+            for (int m = 0; m < 5; m++) {
+                fused(f, m, "1E0", half, upper, more[m]);
+                fused(f, m, "-1E0", half, upper, less[m]);
+                fused(f, m, "1E0", upper, half, more[m]);
+                fused(f, m, "1E0", upper, "-" + half, less[m]);
+            }
+        }
+    }
+
     private static void tiesOfProductsAndQuotients(int f) {
         String stem = "15" + "0".repeat(P[f] - 3);
         signedInAll(2, f, stem(f, 1) + "E0", "15E-1",
@@ -251,6 +274,11 @@ public final class RoundingEdgesTest extends Checks {
         addInAll(f, power, "-5E-2", hardly);
         addInAll(f, power, "-6E-2", all("16", below, below, power, below, below));
         addInAll(f, power, "-1E-1", all("0", below));
+        for (int m = 0; m < 5; m++) {
+            fused(f, m, least(f), "-" + least(f), power, hardly[m]);
+            fused(f, m, "-5E-1", "1E-1", power, hardly[m]);
+            fused(f, m, "-6E-1", "1E-1", power, m == 2 ? power + " 16" : below + " 16");
+        }
         power = ten(P[f] - 1) + "E" + (2 - P[f]);
         below = nines(P[f]) + "E" + (1 - P[f]);
         addInAll(f, "1E1", "-" + least(f), all("16", power, below, power, below, power));
@@ -432,7 +460,13 @@ public final class RoundingEdgesTest extends Checks {
         readInAll(f, "1E" + (1 - EMAX[f]), all("0", "1E" + (1 - EMAX[f])));
         readInAll(f, ten(P[f] - 1) + ".5" + end, all("16", edge, edge, above, edge, above));
         readInAll(f, ten(P[f] - 1) + "." + "0".repeat(60) + "1" + end, all("16", edge, edge, above, edge, edge));
-        signedInAll(2, f, edge, nines(P[f]) + "E" + -P[f], all("24", edge, below, edge, below, edge));
+        String[] hardlyLess = all("24", edge, below, edge, below, edge);
+        signedInAll(2, f, edge, nines(P[f]) + "E" + -P[f], hardlyLess);
+        for (int m = 0; m < 5; m++) {
+            fused(f, m, least(f), "-" + least(f), edge, hardlyLess[m]);
+            fused(f, m, "-5E-1", least(f), edge, hardlyLess[m]);
+            fused(f, m, least(f), least(f), edge, m == 2 ? above + " 16" : edge + " 16");
+        }
         signedInAll(2, f, edge, stem(f, 1) + "E" + (1 - P[f]), all("0", above));
         signedInAll(2, f, above, stem(f, 1) + "E" + (1 - P[f]), all("16", stem(f, 2) + end, stem(f, 2) + end,
             stem(f, 3) + end, stem(f, 2) + end, stem(f, 2) + end));
